@@ -1,0 +1,228 @@
+/** Promises 35 to 37: undo and snapshots. */
+public final class UndoTest {
+    private static final String TEXT = "phone 100;program mail 40 10 2 60 50 5 1000;program maps 50 20 5 80 40 8 100;"
+            + "program song 30 0 0 30 50 3 50;work mail 2;";
+
+    public static void main(String[] args) {
+        promise35Undo();
+        promise35EachChange();
+        promise35WhatIsNoChange();
+        promise35TenChanges();
+        promise36SaveSnapshot();
+        promise37RestoreSnapshot();
+        promise37HoldsAll();
+        Check.end("UndoTest");
+    }
+
+    private static void promise35Undo() {
+        PhoneMemory x = Check.phone(TEXT);
+        Check.equal("35 none", -1, x.undo());
+        x.show(0);
+        x.touch(4);
+        x.touch(5);
+        Check.equal("35 the latest first", 2, x.undo());
+        Check.equal("35 picture", 4, x.picture(0));
+        Check.equal("35 the next one", 1, x.undo());
+        Check.equal("35 picture before", 0, x.picture(0));
+        Check.equal("35 another change", 7, x.touch(7));
+        Check.equal("35 two then", 2, x.size(8));
+        Check.equal("35 undone", 1, x.undo());
+        Check.equal("35 the first one", 0, x.undo());
+        Check.equal("35 closed", 0, x.program(0, 0));
+        Check.equal("35 log", -1, x.log(0, 0));
+        Check.equal("35 account", 0, x.account(7));
+        Check.equal("35 none any more", -1, x.undo());
+        Check.equal("35 still none", 0, x.size(8));
+    }
+
+    /** All that can be asked, as one text. */
+    private static String all(PhoneMemory x) {
+        StringBuilder text = new StringBuilder();
+        for (int what = 0; what < 8; what++) {
+            text.append(x.size(what)).append(' ');
+        }
+        for (int p = 0; p < 3; p++) {
+            for (int what = 0; what < 8; what++) {
+                text.append(x.program(p, what)).append(' ').append(x.notice(p, what)).append(' ');
+            }
+            text.append(x.picture(p)).append(' ').append(x.habit(p)).append(' ').append(x.promise(p)).append(' ');
+            for (int q = 0; q < 3; q++) {
+                text.append(x.followed(p, q)).append(' ').append(x.stateAfter(p, q)).append(' ');
+            }
+        }
+        for (int k = 0; k < 25; k++) {
+            text.append(x.log(k, 0)).append(' ').append(x.log(k, 1)).append(' ').append(x.log(k, 2)).append(' ');
+        }
+        for (int kind = 1; kind < 10; kind++) {
+            text.append(x.account(kind)).append(' ');
+        }
+        return text.toString();
+    }
+
+    private static PhoneMemory busy() {
+        PhoneMemory x = Check.phone(TEXT);
+        x.show(0);
+        x.touch(3);
+        x.pass(7);
+        x.show(1);
+        x.send(0, 11);
+        x.pass(5);
+        x.show(0);
+        x.pass(61);
+        x.show(1);
+        x.pass(2);
+        x.pin(2, true);
+        return x;
+    }
+
+    private static void undoes(String change, Check.Call call, PhoneMemory x) {
+        String before = all(x);
+        int changes = x.size(8);
+        call.answer();
+        Check.equal("35 " + change + " is a change", Math.min(10, changes + 1), x.size(8));
+        Check.equal("35 undo of " + change, Math.min(10, changes + 1) - 1, x.undo());
+        Check.equal("35 all is as before " + change, true, all(x).equals(before));
+        call.answer();
+    }
+
+    private static void promise35EachChange() {
+        PhoneMemory x = busy();
+        undoes("send", () -> x.send(0, 5), x);
+        undoes("send to the shown one", () -> x.send(1, 5), x);
+        undoes("send to a closed one", () -> x.send(2, 5), x);
+        undoes("show", () -> x.show(0), x);
+        undoes("show again", () -> x.show(0), x);
+        undoes("touch", () -> x.touch(6), x);
+        undoes("read", () -> x.read(), x);
+        undoes("pass", () -> x.pass(100), x);
+        undoes("show of another one", () -> x.show(1), x);
+        undoes("home", () -> x.home(), x);
+        undoes("home again", () -> x.home(), x);
+        undoes("pass at home", () -> x.pass(9), x);
+        undoes("setLimit", () -> x.setLimit(200), x);
+        undoes("setLimit again", () -> x.setLimit(50), x);
+        undoes("setPolicy", () -> x.setPolicy(2), x);
+        undoes("setPolicy again", () -> x.setPolicy(2), x);
+        undoes("pin", () -> x.pin(0, true) ? 1 : 0, x);
+        undoes("pin again", () -> x.pin(0, true) ? 1 : 0, x);
+        undoes("setLimit once more", () -> x.setLimit(2000), x);
+        undoes("pin off", () -> x.pin(0, false) ? 1 : 0, x);
+        undoes("close", () -> x.close(1), x);
+        undoes("show with a limit of 2000", () -> x.show(1), x);
+        undoes("trim", () -> x.trim(6), x);
+        undoes("close of the shown one", () -> x.close(1), x);
+    }
+
+    private static void promise35WhatIsNoChange() {
+        PhoneMemory x = busy();
+        x.undo();
+        int changes = x.size(8);
+        String before = all(x);
+        Check.noIndex("35 show", () -> x.show(3));
+        Check.noArgument("35 pass", () -> x.pass(0));
+        Check.noArgument("35 setLimit", () -> x.setLimit(49));
+        Check.noState("35 setLimit refused", () -> x.setLimit(50));
+        Check.noState("35 trim refused", () -> x.trim(2));
+        Check.noState("35 read refused", () -> x.read());
+        x.append(1, 2, 3, 4, 5);
+        x.find();
+        x.saveSnapshot(0);
+        x.append(1, 2, 3, 4, 5);
+        Check.equal("35 parse with an error", 1, x.parse(20));
+        Check.equal("35 none is a change", changes, x.size(8));
+        Check.equal("35 nothing has altered", true, all(x).equals(before));
+    }
+
+    private static void promise35TenChanges() {
+        PhoneMemory x = Check.phone(TEXT);
+        x.show(0);
+        for (int i = 1; i <= 25; i++) {
+            x.setLimit(100 + i);
+        }
+        Check.equal("35 at most ten", 10, x.size(8));
+        for (int i = 9; i >= 0; i--) {
+            Check.equal("35 undone, left " + i, i, x.undo());
+            Check.equal("35 limit with " + i + " left", 115 + i, x.size(1));
+        }
+        Check.equal("35 no eleventh", -1, x.undo());
+        Check.equal("35 limit stays", 115, x.size(1));
+        for (int i = 1; i <= 4; i++) {
+            x.setLimit(300 + i);
+        }
+        x.undo();
+        x.undo();
+        x.setLimit(400);
+        Check.equal("35 three then", 3, x.size(8));
+        x.undo();
+        Check.equal("35 to the second one", 302, x.size(1));
+        x.undo();
+        Check.equal("35 to the first one", 301, x.size(1));
+        Check.equal("35 to none", 0, x.undo());
+        Check.equal("35 to what was before", 115, x.size(1));
+    }
+
+    private static void promise36SaveSnapshot() {
+        PhoneMemory x = busy();
+        for (int slot : new int[] {-1, 2, Integer.MIN_VALUE, Integer.MAX_VALUE}) {
+            Check.noIndex("36 slot " + slot, () -> x.saveSnapshot(slot) ? 1 : 0);
+            Check.noIndex("37 slot " + slot, () -> x.restoreSnapshot(slot));
+        }
+        int changes = x.size(8);
+        Check.equal("36 first", false, x.saveSnapshot(1));
+        Check.equal("36 again", true, x.saveSnapshot(1));
+        Check.equal("36 the other slot", false, x.saveSnapshot(0));
+        Check.equal("36 no change", changes, x.size(8));
+        x.pass(10);
+        Check.equal("36 in its place", true, x.saveSnapshot(0));
+        x.pass(10);
+        Check.equal("37 the later one", 85, x.restoreSnapshot(0));
+        Check.equal("37 the earlier one", 75, x.restoreSnapshot(1));
+    }
+
+    private static void promise37RestoreSnapshot() {
+        PhoneMemory x = busy();
+        Check.noState("37 empty 0", () -> x.restoreSnapshot(0));
+        Check.noState("37 empty 1", () -> x.restoreSnapshot(1));
+        Check.equal("37 history stays", 10, x.size(8));
+        x.saveSnapshot(0);
+        Check.noState("37 1 is still empty", () -> x.restoreSnapshot(1));
+        x.pass(3);
+        x.undo();
+        x.pass(4);
+        Check.equal("37 minute", 75, x.restoreSnapshot(0));
+        Check.equal("37 history is cleared", 0, x.size(8));
+        Check.equal("37 nothing to undo", -1, x.undo());
+        x.pass(30);
+        Check.equal("37 it stays stored", 75, x.restoreSnapshot(0));
+        x.close(1);
+        Check.equal("35 undo behind it", 0, x.undo());
+        Check.equal("37 its own phone", 1, x.program(1, 0));
+    }
+
+    private static void promise37HoldsAll() {
+        PhoneMemory x = busy();
+        x.setPolicy(2);
+        x.setLimit(150);
+        String before = all(x);
+        x.saveSnapshot(1);
+        for (int i = 0; i < 30; i++) {
+            x.send(0, i);
+            x.show(i % 2);
+            x.touch(i);
+            x.pass(i + 1);
+            x.pin(i % 3, i % 2 == 0);
+            if (i % 5 == 4) {
+                x.close(i % 2);
+            }
+        }
+        x.setPolicy(0);
+        x.setLimit(99);
+        Check.equal("37 much has altered", false, all(x).equals(before));
+        x.restoreSnapshot(1);
+        Check.equal("37 all is as it was", true, all(x).equals(before));
+        x.show(0);
+        x.pass(9);
+        x.restoreSnapshot(1);
+        Check.equal("37 once more", true, all(x).equals(before));
+    }
+}
