@@ -90,7 +90,7 @@ public final class PhoneMemory {
         }
     }
 
-    public int parse(int length) {
+    public int parse(int length) throws IllegalArgumentException {
         if (length < 0 || length > bytes) {
             throw new IllegalArgumentException("no such length");
         }
@@ -118,7 +118,7 @@ public final class PhoneMemory {
         return errorAt;
     }
 
-    public int size(int what) {
+    public int size(int what) throws IllegalArgumentException {
         switch (what) {
             case 0:
                 return description.count;
@@ -160,7 +160,7 @@ public final class PhoneMemory {
         }
     }
 
-    public int program(int program, int what) {
+    public int program(int program, int what) throws IndexOutOfBoundsException, IllegalArgumentException {
         checkProgram(program);
         switch (what) {
             case 0:
@@ -184,7 +184,7 @@ public final class PhoneMemory {
         }
     }
 
-    public int told(int program, int what) {
+    public int told(int program, int what) throws IndexOutOfBoundsException, IllegalArgumentException {
         checkProgram(program);
         if (what < 0 || what >= Description.NUMBERS) {
             throw new IllegalArgumentException("no such number");
@@ -192,35 +192,35 @@ public final class PhoneMemory {
         return description.numbers[program][what];
     }
 
-    public int picture(int program) {
+    public int picture(int program) throws IndexOutOfBoundsException {
         checkProgram(program);
         return now.pictures[program];
     }
 
-    public int notice(int program, int k) {
+    public int notice(int program, int k) throws IndexOutOfBoundsException {
         checkProgram(program);
         return now.waitingNotice(program, k);
     }
 
     // ---- habits
 
-    public int habit(int program) {
+    public int habit(int program) throws IndexOutOfBoundsException {
         checkProgram(program);
         return now.habits.habitOf(program);
     }
 
-    public int promise(int program) {
+    public int promise(int program) throws IndexOutOfBoundsException {
         checkProgram(program);
         return now.habits.promiseOf(program, now.shown, now.minute);
     }
 
-    public int followed(int first, int following) {
+    public int followed(int first, int following) throws IndexOutOfBoundsException {
         checkProgram(first);
         checkProgram(following);
         return now.habits.timesFollowed(first, following);
     }
 
-    public int likeliest(int program) {
+    public int likeliest(int program) throws IndexOutOfBoundsException {
         checkProgram(program);
         return now.habits.likeliestAfter(program);
     }
@@ -233,25 +233,25 @@ public final class PhoneMemory {
         }
     }
 
-    public int victim(int kind) {
+    public int victim(int kind) throws IllegalArgumentException {
         checkStep(kind);
         now.prepareTrims();
         return trims.victimOf(kind);
     }
 
-    public int freed(int kind) {
+    public int freed(int kind) throws IllegalArgumentException {
         checkStep(kind);
         now.prepareTrims();
         int program = trims.victimOf(kind);
         return program == NONE ? 0 : trims.tryStep(kind, program);
     }
 
-    public int waitOf(int program) {
+    public int waitOf(int program) throws IndexOutOfBoundsException {
         checkProgram(program);
         return now.waitFor(program);
     }
 
-    public int whyNotShow(int program) {
+    public int whyNotShow(int program) throws IndexOutOfBoundsException {
         checkProgram(program);
         if (triedShowing(program)) {
             return 0;
@@ -259,18 +259,19 @@ public final class PhoneMemory {
         return now.room.pagesWhenShown(program) > now.room.limit ? 1 : 2;
     }
 
-    public int trimsFor(int program) {
+    public int trimsFor(int program) throws IndexOutOfBoundsException {
         checkProgram(program);
         return triedShowing(program) ? trial.journal.steps() - now.journal.steps() : NONE;
     }
 
-    public int stateAfter(int shown, int program) {
+    public int stateAfter(int shown, int program) throws IndexOutOfBoundsException {
         checkProgram(shown);
         checkProgram(program);
         return triedShowing(shown) ? trial.room.state[program] : NONE;
     }
 
-    public int waitsFor(int policy, int first, int second, int third) {
+    public int waitsFor(int policy, int first, int second, int third)
+            throws IndexOutOfBoundsException, IllegalArgumentException {
         checkProgram(first);
         checkProgram(second);
         checkProgram(third);
@@ -298,14 +299,14 @@ public final class PhoneMemory {
         return trial.bringUp(program);
     }
 
-    public int log(int k, int part) {
+    public int log(int k, int part) throws IllegalArgumentException {
         if (part < 0 || part >= PARTS_OF_ENTRY) {
             throw new IllegalArgumentException("no such part");
         }
         return now.journal.partOf(k, part);
     }
 
-    public int account(int kind) {
+    public int account(int kind) throws IllegalArgumentException {
         if (kind < 1 || kind > KINDS_OF_ENTRIES) {
             throw new IllegalArgumentException("no such kind");
         }
@@ -320,7 +321,7 @@ public final class PhoneMemory {
         trial = unused;
     }
 
-    public int show(int program) {
+    public int show(int program) throws IndexOutOfBoundsException, IllegalStateException {
         checkProgram(program);
         int wait = now.waitFor(program);
         if (!triedShowing(program)) {
@@ -338,7 +339,7 @@ public final class PhoneMemory {
         return program;
     }
 
-    public int pass(int minutes) {
+    public int pass(int minutes) throws IllegalArgumentException {
         if (minutes < 1 || minutes > MOST_MINUTES) {
             throw new IllegalArgumentException("no such number of minutes");
         }
@@ -357,7 +358,7 @@ public final class PhoneMemory {
         }
     }
 
-    public int touch(int number) {
+    public int touch(int number) throws IllegalArgumentException, IllegalStateException {
         checkNotice(number);
         int program = now.shown;
         if (program < 0) {
@@ -369,7 +370,7 @@ public final class PhoneMemory {
         return now.pictures[program];
     }
 
-    public int send(int program, int notice) {
+    public int send(int program, int notice) throws IndexOutOfBoundsException, IllegalArgumentException {
         checkProgram(program);
         checkNotice(notice);
         trial.copyFrom(now);
@@ -378,7 +379,7 @@ public final class PhoneMemory {
         return now.noticesWaiting[program];
     }
 
-    public int read() {
+    public int read() throws IllegalStateException {
         int program = now.shown;
         if (program < 0) {
             throw new IllegalStateException("no program is shown");
@@ -392,7 +393,7 @@ public final class PhoneMemory {
         return now.pictures[program];
     }
 
-    public boolean pin(int program, boolean pinned) {
+    public boolean pin(int program, boolean pinned) throws IndexOutOfBoundsException {
         checkProgram(program);
         boolean before = now.room.pinned[program];
         trial.copyFrom(now);
@@ -401,7 +402,7 @@ public final class PhoneMemory {
         return before;
     }
 
-    public int trim(int kind) {
+    public int trim(int kind) throws IllegalArgumentException, IllegalStateException {
         checkStep(kind);
         now.prepareTrims();
         int program = trims.victimOf(kind);
@@ -417,7 +418,7 @@ public final class PhoneMemory {
         return program;
     }
 
-    public int close(int program) {
+    public int close(int program) throws IndexOutOfBoundsException, IllegalStateException {
         checkProgram(program);
         if (now.room.state[program] == CLOSED) {
             throw new IllegalStateException("it is closed");
@@ -429,7 +430,7 @@ public final class PhoneMemory {
         return less;
     }
 
-    public int setLimit(int limit) {
+    public int setLimit(int limit) throws IllegalArgumentException, IllegalStateException {
         if (limit < LEAST_LIMIT || limit > MOST_LIMIT) {
             throw new IllegalArgumentException("no such limit");
         }
@@ -449,7 +450,7 @@ public final class PhoneMemory {
         }
     }
 
-    public int setPolicy(int policy) {
+    public int setPolicy(int policy) throws IllegalArgumentException {
         checkPolicy(policy);
         int before = now.policy;
         trial.copyFrom(now);
@@ -474,7 +475,7 @@ public final class PhoneMemory {
         }
     }
 
-    public boolean saveSnapshot(int slot) {
+    public boolean saveSnapshot(int slot) throws IndexOutOfBoundsException {
         checkSlot(slot);
         boolean before = slotIsFull[slot];
         slots[slot].copyFrom(now);
@@ -482,7 +483,7 @@ public final class PhoneMemory {
         return before;
     }
 
-    public int restoreSnapshot(int slot) {
+    public int restoreSnapshot(int slot) throws IndexOutOfBoundsException, IllegalStateException {
         checkSlot(slot);
         if (!slotIsFull[slot]) {
             throw new IllegalStateException("the slot is empty");
@@ -919,10 +920,6 @@ public final class PhoneMemory {
         private final int[] gaps = new int[MOST_PROGRAMS * MOST_GAPS];
         private final int[] followings = new int[MOST_PROGRAMS * MOST_PROGRAMS];
 
-        Habits(Description told) {
-            begin(told);
-        }
-
         void begin(Description told) {
             count = told.count;
             last = NONE;
@@ -1131,7 +1128,7 @@ public final class PhoneMemory {
         private final Trims trims;
         private Description description;
         final Room room;
-        final Habits habits;
+        final Habits habits = new Habits();
         final Journal journal = new Journal();
         int minute;
         int policy;
@@ -1145,7 +1142,6 @@ public final class PhoneMemory {
         Phone(Trims trims, Description told) {
             this.trims = trims;
             room = new Room(told);
-            habits = new Habits(told);
             begin(told);
         }
 

@@ -12,6 +12,7 @@ public final class ChangesTest {
         promise24Refused();
         promise24Ranks();
         promise24CacheOfItself();
+        promise24Sizes();
         promise25Home();
         promise26Grow();
         promise26GrowMakesMemory();
@@ -199,6 +200,22 @@ public final class ChangesTest {
         Check.equal("24 new", 500, x.show(3));
         states("24 by promises", x, 2, 4, 4, 1);
         Check.equal("13 followed", 1, x.followed(1, 3));
+    }
+
+    /** By size: what a program uses behind the steps before counts. */
+    private static void promise24Sizes() {
+        PhoneMemory x = Check.phone("phone 130;program a 30 40 0 30 50 9 9999;program b 50 0 0 50 50 9 9999;"
+                + "program c 30 0 0 30 50 9 9999;policy size;");
+        x.show(0);
+        x.show(1);
+        // 70 + 50 + 30 of 130: the cache of a is enough
+        x.show(2);
+        states("24 only a cache", x, 2, 2, 1);
+        x.undo();
+        x.home();
+        // 70 + 50 of 70: the cache of a, then b is greater than a
+        Check.equal("33 cache, freeze and zip", 3, x.setLimit(70));
+        states("33 b was greater then", x, 2, 4, 0);
     }
 
     private static void promise24CacheOfItself() {

@@ -12,14 +12,44 @@ import java.util.TreeSet;
 
 /** The public face, and what of ../shared/LANGUAGE.md can be seen from the class and its text. */
 public final class LanguageTest {
-    private static final String[] FACE = {"int append(int,int,int,int,int)", "int parse(int)", "int errorPosition()",
-        "int size(int)", "int find()", "int program(int,int)", "int told(int,int)", "int picture(int)", "int notice(int,int)",
-        "int habit(int)", "int promise(int)", "int followed(int,int)", "int likeliest(int)", "int victim(int)",
-        "int freed(int)", "int waitOf(int)", "int whyNotShow(int)", "int trimsFor(int)", "int stateAfter(int,int)",
-        "int waitsFor(int,int,int,int)", "int log(int,int)", "int account(int)", "int show(int)", "int home()",
-        "int pass(int)", "int touch(int)", "int send(int,int)", "int read()", "boolean pin(int,boolean)", "int trim(int)",
-        "int close(int)", "int setLimit(int)", "int setPolicy(int)", "int undo()", "boolean saveSnapshot(int)",
-        "int restoreSnapshot(int)"};
+    private static final String[] FACE = {
+        "int append(int,int,int,int,int)",
+        "int parse(int) IllegalArgument",
+        "int errorPosition()",
+        "int size(int) IllegalArgument",
+        "int find()",
+        "int program(int,int) IndexOutOfBounds IllegalArgument",
+        "int told(int,int) IndexOutOfBounds IllegalArgument",
+        "int picture(int) IndexOutOfBounds",
+        "int notice(int,int) IndexOutOfBounds",
+        "int habit(int) IndexOutOfBounds",
+        "int promise(int) IndexOutOfBounds",
+        "int followed(int,int) IndexOutOfBounds",
+        "int likeliest(int) IndexOutOfBounds",
+        "int victim(int) IllegalArgument",
+        "int freed(int) IllegalArgument",
+        "int waitOf(int) IndexOutOfBounds",
+        "int whyNotShow(int) IndexOutOfBounds",
+        "int trimsFor(int) IndexOutOfBounds",
+        "int stateAfter(int,int) IndexOutOfBounds",
+        "int waitsFor(int,int,int,int) IndexOutOfBounds IllegalArgument",
+        "int log(int,int) IllegalArgument",
+        "int account(int) IllegalArgument",
+        "int show(int) IndexOutOfBounds IllegalState",
+        "int home()",
+        "int pass(int) IllegalArgument",
+        "int touch(int) IllegalArgument IllegalState",
+        "int send(int,int) IndexOutOfBounds IllegalArgument",
+        "int read() IllegalState",
+        "boolean pin(int,boolean) IndexOutOfBounds",
+        "int trim(int) IllegalArgument IllegalState",
+        "int close(int) IndexOutOfBounds IllegalState",
+        "int setLimit(int) IllegalArgument IllegalState",
+        "int setPolicy(int) IllegalArgument",
+        "int undo()",
+        "boolean saveSnapshot(int) IndexOutOfBounds",
+        "int restoreSnapshot(int) IndexOutOfBounds IllegalState"
+    };
     private static final String[] NOT_ALLOWED = {"finally", "synchronized", "assert", "->", "::", "import java.io",
         "import java.util.function", "catch", "String.format", "System.out", "Math.random", "package ", "equals(Object",
         "hashCode", "toString("};
@@ -38,7 +68,11 @@ public final class LanguageTest {
         for (Class<?> type : method.getParameterTypes()) {
             text.append(text.charAt(text.length() - 1) == '(' ? "" : ",").append(type.getSimpleName());
         }
-        return text.append(')').toString();
+        text.append(')');
+        for (Class<?> type : method.getExceptionTypes()) {
+            text.append(' ').append(type.getSimpleName().replace("Exception", ""));
+        }
+        return text.toString();
     }
 
     private static boolean isPrivate(Member member) {

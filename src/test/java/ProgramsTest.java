@@ -179,6 +179,10 @@ public final class ProgramsTest {
         x.show(0);
         x.show(1);
         Check.equal("10 none", -1, x.notice(0, 0));
+        x.show(0);
+        x.send(1, 500);
+        x.send(1, 501);
+        x.show(1);
         for (int i = 1; i <= 7; i++) {
             x.send(0, 10 * i);
         }
@@ -189,7 +193,10 @@ public final class ProgramsTest {
         Check.equal("10 notice -1", -1, x.notice(0, -1));
         Check.equal("10 smallest", -1, x.notice(0, Integer.MIN_VALUE));
         Check.equal("10 greatest", -1, x.notice(0, Integer.MAX_VALUE));
-        Check.equal("10 of the other one", -1, x.notice(1, 0));
+        Check.equal("10 of the other one", 500, x.notice(1, 0));
+        Check.equal("10 the other one reads", 500, x.read());
+        Check.equal("10 the other one reads on", 31 * 500 + 501, x.read());
+        Check.equal("10 the other one has no more", -1, x.notice(1, 0));
         x.show(0);
         Check.equal("10 shown, not read", 30, x.notice(0, 0));
         x.read();
@@ -214,8 +221,8 @@ public final class ProgramsTest {
         x.show(0);
         Check.equal("11 no gap", 600, x.habit(0));
         x.pass(10);
-        int[] gaps = {5, 8, 1, 2, 100, 0, 7};
-        int[] want = {5, 6, 4, 4, 27, 25, 27};
+        int[] gaps = {5, 8, 1, 2, 100, 0, 7, 10, 3, 20, 40};
+        int[] want = {5, 6, 4, 4, 27, 25, 27, 29, 5, 10, 18};
         for (int i = 0; i < gaps.length; i++) {
             showAfter(x, 0, gaps[i]);
             Check.equal("11 behind gap " + gaps[i], want[i], x.habit(0));
@@ -227,6 +234,16 @@ public final class ProgramsTest {
         y.show(0);
         showAfter(y, 0, 0);
         Check.equal("11 gap of 0", 0, y.habit(0));
+        PhoneMemory z = Check.phone(THREE);
+        for (int i = 1; i <= 5; i++) {
+            for (int p = 0; p < 3; p++) {
+                z.show(p);
+                z.pass(i * (p + 1));
+            }
+        }
+        Check.equal("11 habit of a", (5 + 10 + 15 + 20) / 4, z.habit(0));
+        Check.equal("11 habit of b", (5 + 9 + 13 + 17) / 4, z.habit(1));
+        Check.equal("11 habit of c", (6 + 9 + 12 + 15) / 4, z.habit(2));
     }
 
     private static void promise11WhatIsNoGap() {
@@ -295,6 +312,12 @@ public final class ProgramsTest {
         x.show(0);
         Check.equal("12 2 of 4", 0, x.promise(2));
         Check.equal("12 the other 2 of 4", 0, x.promise(1));
+        PhoneMemory y = Check.phone(THREE);
+        for (int program : new int[] {2, 0, 2, 0, 2, 1, 2}) {
+            y.show(program);
+        }
+        Check.equal("12 a, 2 of 3", 0, y.promise(0));
+        Check.equal("12 b, 1 of 3", 600, y.promise(1));
     }
 
     private static void promise12Last() {

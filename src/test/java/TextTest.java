@@ -116,6 +116,9 @@ public final class TextTest {
         Check.equal("3 no costs", 200, x.waitOf(0));
         Check.append(x, "a");
         Check.equal("3 no a", -1, x.find());
+        String once = "phone 90;costs 1 2 3 4;policy recent;";
+        Check.equal("3 costs and policy", 0, Check.parse(x, once));
+        Check.equal("3 costs and policy of another text", 0, Check.parse(x, once));
     }
 
     private static void promise3ParseLength() {
@@ -132,7 +135,19 @@ public final class TextTest {
         Check.noArgument("3 empty behind success", () -> x.parse(1));
         Check.append(x, "phone 50;phone 60;");
         Check.equal("3 too much", 1, x.parse(10));
+        endsInside(7, 3, 6);
+        endsInside(8, 1, 8);
+        endsInside(4, 1, 0);
+        endsInside(12, 1, 10);
         Check.noArgument("3 empty behind error", () -> x.parse(1));
+    }
+
+    /** The bytes behind length do not count, even if the last token would go on there. */
+    private static void endsInside(int length, int code, int position) {
+        PhoneMemory x = new PhoneMemory();
+        Check.append(x, "phone 505;costs 1 1 1 1;");
+        Check.equal("3 code of " + length + " bytes", code, x.parse(length));
+        Check.equal("4 position in " + length + " bytes", position, x.errorPosition());
     }
 
     private static void fails(String text, int code, int position) {
@@ -161,6 +176,13 @@ public final class TextTest {
         fails("phone 50;programs a 10 0 0 10 50 1 1;", 1, 9);
         fails("phone 50;programsx", 1, 9);
         fails("phone 50;program a \u0001", 1, 19);
+        PhoneMemory x = new PhoneMemory();
+        StringBuilder full = new StringBuilder("phone 50;");
+        while (full.length() < 693) {
+            full.append(' ');
+        }
+        Check.equal("3 a word at the end of a full buffer", 1, Check.parse(x, full + "program"));
+        Check.equal("4 and the text ends too early", 700, x.errorPosition());
         Check.equal("3 eight letters", 1, Check.phone("phone 50;program abcdefgh 10 0 0 10 50 1 1;").size(0));
     }
 
@@ -269,6 +291,7 @@ public final class TextTest {
         PhoneMemory x = Check.phone("phone 70;" + A);
         x.show(0);
         x.touch(3);
+        x.saveSnapshot(0);
         x.saveSnapshot(1);
         Check.equal("3 error", 3, Check.parse(x, "phone 60;program b 10 0 0 10 50 1 1;program c 0;"));
         Check.equal("3 programs stay", 1, x.size(0));
@@ -287,7 +310,8 @@ public final class TextTest {
             Check.equal("3 size " + what + " anew", sizes[what], x.size(what));
         }
         Check.equal("3 no history", -1, x.undo());
-        Check.noState("3 no slot", () -> x.restoreSnapshot(1));
+        Check.noState("3 no slot 0", () -> x.restoreSnapshot(0));
+        Check.noState("3 no slot 1", () -> x.restoreSnapshot(1));
         Check.equal("3 no log", -1, x.log(0, 0));
         Check.equal("3 no account", 0, x.account(7));
         Check.equal("3 no picture", 0, x.picture(0));

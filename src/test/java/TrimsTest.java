@@ -119,6 +119,11 @@ public final class TrimsTest {
         Check.equal("15 pinned, 3", 2, x.victim(3));
         x.trim(1);
         Check.equal("15 without a cache", 2, x.victim(1));
+        PhoneMemory y = Check.phone("phone 90;program a 10 1 0 10 50 1 9999;");
+        y.show(0);
+        Check.equal("15 a cache of 1, shown", 0, y.victim(6));
+        y.home();
+        Check.equal("15 a cache of 1, resting", 0, y.victim(1));
         x.trim(3);
         Check.equal("15 frozen, 1", 2, x.victim(1));
         Check.equal("15 frozen, 2", 2, x.victim(2));
@@ -324,6 +329,8 @@ public final class TrimsTest {
         // maps is refused; song new 300
         Check.equal("21 refused adds 0", 300, x.waitsFor(0, 1, 2, 1));
         Check.equal("21 refused leaves the shown one", 320, x.waitsFor(0, 1, 2, 0));
+        Check.equal("21 refused in between", 300, x.waitsFor(0, 2, 1, 2));
+        Check.equal("21 refused twice", 300, x.waitsFor(0, 2, 1, 1));
     }
 
     private static void promise21Details() {
