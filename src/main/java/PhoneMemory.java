@@ -39,10 +39,8 @@ public final class PhoneMemory {
     private static final int MOST_NOTICE = 999;
     private static final int PARTS_OF_ENTRY = 3;
 
-    private final byte[] buffer = new byte[MOST_BYTES];
-    private int bytes = 0;
-    private int errorAt = NONE;
     private final Reader reader;
+    private int errorAt = NONE;
     private Description description;
     private Description draft;
     private final Trims trims;
@@ -54,7 +52,7 @@ public final class PhoneMemory {
     private final boolean[] slotIsFull;
 
     public PhoneMemory() {
-        reader = new Reader(buffer);
+        reader = new Reader();
         description = new Description();
         draft = new Description();
         trims = new Trims();
@@ -72,31 +70,24 @@ public final class PhoneMemory {
     // ---- text
 
     public int append(int a, int b, int c, int d, int e) {
-        if (bytes > MOST_BYTES - BYTES_APPENDED) {
+        if (reader.filled > MOST_BYTES - BYTES_APPENDED) {
             return NONE;
         }
-        putFourBytes(a);
-        putFourBytes(b);
-        putFourBytes(c);
-        putFourBytes(d);
-        putFourBytes(e);
-        return bytes;
-    }
-
-    private void putFourBytes(int four) {
-        for (int shift = 24; shift >= 0 && bytes < MOST_BYTES; shift -= 8) {
-            buffer[bytes] = (byte) (four >>> shift);
-            bytes++;
-        }
+        reader.putFourBytes(a);
+        reader.putFourBytes(b);
+        reader.putFourBytes(c);
+        reader.putFourBytes(d);
+        reader.putFourBytes(e);
+        return reader.filled;
     }
 
     public int parse(int length) throws IllegalArgumentException {
-        if (length < 0 || length > bytes) {
+        if (length < 0 || length > reader.filled) {
             throw new IllegalArgumentException("no such length");
         }
-        bytes = 0;
         int code = reader.readPhone(length, draft);
-        errorAt = reader.errorAt();
+        reader.filled = 0;
+        errorAt = reader.codeAt;
         if (code == 0) {
             useDraft();
         }
@@ -144,12 +135,9 @@ public final class PhoneMemory {
     }
 
     public int find() {
-        int end = bytes;
-        bytes = 0;
-        while (end > 0 && buffer[end - 1] == ' ') {
-            end--;
-        }
-        return description.withName(reader.wordBetween(0, end));
+        int program = description.withName(reader.wordBeforeSpaces());
+        reader.filled = 0;
+        return program;
     }
 
     // ---- programs
@@ -539,7 +527,7 @@ public final class PhoneMemory {
         }
     }
 
-    /** Reads a description from the buffer; at the first error it stops, as the first has the smallest position. */
+    /** The input buffer. Reading stops at the first error, as that one has the smallest position. */
     private static final class Reader {
         private static final int END = 0;
         private static final int WORD = 1;
@@ -557,7 +545,8 @@ public final class PhoneMemory {
         private static final int MOST_LETTERS = 8;
         private static final int MOST_DIGITS = 4;
 
-        private final byte[] text;
+        private final byte[] text = new byte[MOST_BYTES];
+        int filled = 0;
         private int length;
         private int next;
         private int token;
@@ -565,17 +554,28 @@ public final class PhoneMemory {
         private long word;
         private int number;
         private int code;
-        private int codeAt;
+        int codeAt;
         private boolean costsCame;
         private boolean policyCame;
 
-        Reader(byte[] text) {
-            this.text = text;
+        void putFourBytes(int four) {
+            for (int shift = 24; shift >= 0 && filled < MOST_BYTES; shift -= 8) {
+                text[filled] = (byte) (four >>> shift);
+                filled++;
+            }
+        }
+
+        long wordBeforeSpaces() {
+            int end = filled;
+            while (end > 0 && text[end - 1] == ' ') {
+                end--;
+            }
+            return wordBetween(0, end);
         }
 
         /** The code of the error, 0 if there is none. */
         int readPhone(int textLength, Description into) {
-            length = Math.min(textLength, text.length);
+            length = Math.min(textLength, filled);
             next = 0;
             code = 0;
             codeAt = NONE;
@@ -606,10 +606,6 @@ public final class PhoneMemory {
                 step();
             }
             return code;
-        }
-
-        int errorAt() {
-            return codeAt;
         }
 
         private void readProgram(Description into) {
@@ -742,8 +738,8 @@ public final class PhoneMemory {
         }
 
         /** The bytes as one number that tells words apart; NOT_A_WORD if they are none. */
-        long wordBetween(int from, int to) {
-            if (from < 0 || to > text.length || to - from > MOST_LETTERS) {
+        private long wordBetween(int from, int to) {
+            if (from < 0 || to > filled || to - from > MOST_LETTERS) {
                 return NOT_A_WORD;
             }
             long letters = NOT_A_WORD;
@@ -1070,7 +1066,6 @@ public final class PhoneMemory {
         int steps = 0;
         final int[] kinds = new int[MOST_STEPS];
         final int[] programs = new int[MOST_STEPS];
-
 
         int victimOf(int kind) {
             int first = NONE;
