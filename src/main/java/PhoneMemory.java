@@ -688,8 +688,10 @@ public final class PhoneMemory {
         }
 
         private int takeNumber(int least, int most) {
-            take(NUMBER);
-            if (number < least || number > most) {
+            step();
+            if (token != NUMBER) {
+                fail(WRONG_TOKEN);
+            } else if (number < least || number > most) {
                 fail(OUT_OF_RANGE);
             }
             return number;
