@@ -1,4 +1,7 @@
+import java.io.IOException;
 import java.nio.charset.StandardCharsets;
+import java.nio.file.Files;
+import java.nio.file.Path;
 
 /** What the tests share: comparing answers, counting what is wrong, putting texts into a phone. */
 final class Check {
@@ -7,14 +10,41 @@ final class Check {
     }
 
     static int wrong = 0;
+    private static String sentence = null;
+    private static String document = null;
 
     private Check() {
     }
 
+    /** The sentence of the document that the next checks look at; a wrong answer is told with it. */
+    static void sentence(String words) {
+        sentence = null;
+        if (!document().contains(words)) {
+            fail("the document has no sentence: " + words);
+        }
+        sentence = words;
+    }
+
+    /** The document with a space for each run of spaces and line ends. */
+    private static String document() {
+        if (document == null) {
+            try {
+                document = Files.readString(Path.of("../shared/DOC.md")).replaceAll("\\s+", " ");
+            } catch (IOException e) {
+                throw new IllegalStateException("../shared/DOC.md cannot be read", e);
+            }
+        }
+        return document;
+    }
+
+    static void fail(String what) {
+        wrong++;
+        System.out.println(what + (sentence == null ? "" : "\n    by: " + sentence));
+    }
+
     static void equal(String what, long want, long got) {
         if (got != want) {
-            wrong++;
-            System.out.println(what + " answered " + got + ", due is " + want);
+            fail(what + " answered " + got + ", due is " + want);
         }
     }
 
@@ -25,12 +55,10 @@ final class Check {
     static void throwing(String what, Class<? extends RuntimeException> want, Call call) {
         try {
             long got = call.answer();
-            wrong++;
-            System.out.println(what + " answered " + got + ", due is " + want.getSimpleName());
+            fail(what + " answered " + got + ", due is " + want.getSimpleName());
         } catch (RuntimeException e) {
             if (e.getClass() != want) {
-                wrong++;
-                System.out.println(what + " threw " + e.getClass().getSimpleName() + ", due is " + want.getSimpleName());
+                fail(what + " threw " + e.getClass().getSimpleName() + ", due is " + want.getSimpleName());
             }
         }
     }
@@ -75,6 +103,32 @@ final class Check {
         PhoneMemory x = new PhoneMemory();
         equal("parse of " + text, 0, parse(x, text));
         return x;
+    }
+
+    /** All that can be asked without changing anything, but for the number of changes that can be undone, as one text. */
+    static String all(PhoneMemory x) {
+        StringBuilder text = new StringBuilder();
+        for (int what = 0; what < 8; what++) {
+            text.append(x.size(what)).append(' ');
+        }
+        for (int p = 0; p < x.size(0); p++) {
+            for (int what = 0; what < 8; what++) {
+                text.append(x.program(p, what)).append(' ').append(x.notice(p, what)).append(' ');
+                text.append(x.told(p, what)).append(' ');
+            }
+            text.append(x.picture(p)).append(' ').append(x.habit(p)).append(' ').append(x.promise(p)).append(' ');
+            text.append(x.likeliest(p)).append(' ').append(x.waitOf(p)).append(' ').append(x.whyNotShow(p)).append(' ');
+            for (int q = 0; q < x.size(0); q++) {
+                text.append(x.followed(p, q)).append(' ').append(x.stateAfter(p, q)).append(' ');
+            }
+        }
+        for (int k = 0; k < 25; k++) {
+            text.append(x.log(k, 0)).append(' ').append(x.log(k, 1)).append(' ').append(x.log(k, 2)).append(' ');
+        }
+        for (int kind = 1; kind < 10; kind++) {
+            text.append(x.account(kind)).append(' ');
+        }
+        return text.toString();
     }
 
     static void end(String test) {

@@ -35,30 +35,6 @@ public final class UndoTest {
         Check.equal("35 still none", 0, x.size(8));
     }
 
-    /** All that can be asked, as one text. */
-    private static String all(PhoneMemory x) {
-        StringBuilder text = new StringBuilder();
-        for (int what = 0; what < 8; what++) {
-            text.append(x.size(what)).append(' ');
-        }
-        for (int p = 0; p < 3; p++) {
-            for (int what = 0; what < 8; what++) {
-                text.append(x.program(p, what)).append(' ').append(x.notice(p, what)).append(' ');
-            }
-            text.append(x.picture(p)).append(' ').append(x.habit(p)).append(' ').append(x.promise(p)).append(' ');
-            for (int q = 0; q < 3; q++) {
-                text.append(x.followed(p, q)).append(' ').append(x.stateAfter(p, q)).append(' ');
-            }
-        }
-        for (int k = 0; k < 25; k++) {
-            text.append(x.log(k, 0)).append(' ').append(x.log(k, 1)).append(' ').append(x.log(k, 2)).append(' ');
-        }
-        for (int kind = 1; kind < 10; kind++) {
-            text.append(x.account(kind)).append(' ');
-        }
-        return text.toString();
-    }
-
     private static PhoneMemory busy() {
         PhoneMemory x = Check.phone(TEXT);
         x.show(0);
@@ -76,12 +52,12 @@ public final class UndoTest {
     }
 
     private static void undoes(String change, Check.Call call, PhoneMemory x) {
-        String before = all(x);
+        String before = Check.all(x);
         int changes = x.size(8);
         call.answer();
         Check.equal("35 " + change + " is a change", Math.min(10, changes + 1), x.size(8));
         Check.equal("35 undo of " + change, Math.min(10, changes + 1) - 1, x.undo());
-        Check.equal("35 all is as before " + change, true, all(x).equals(before));
+        Check.equal("35 all is as before " + change, true, Check.all(x).equals(before));
         call.answer();
     }
 
@@ -117,7 +93,7 @@ public final class UndoTest {
         PhoneMemory x = busy();
         x.undo();
         int changes = x.size(8);
-        String before = all(x);
+        String before = Check.all(x);
         Check.noIndex("35 show", () -> x.show(3));
         Check.noArgument("35 pass", () -> x.pass(0));
         Check.noArgument("35 setLimit", () -> x.setLimit(49));
@@ -130,7 +106,7 @@ public final class UndoTest {
         x.append(1, 2, 3, 4, 5);
         Check.equal("35 parse with an error", 1, x.parse(20));
         Check.equal("35 none is a change", changes, x.size(8));
-        Check.equal("35 nothing has altered", true, all(x).equals(before));
+        Check.equal("35 nothing has altered", true, Check.all(x).equals(before));
     }
 
     private static void promise35TenChanges() {
@@ -203,7 +179,7 @@ public final class UndoTest {
         PhoneMemory x = busy();
         x.setPolicy(2);
         x.setLimit(150);
-        String before = all(x);
+        String before = Check.all(x);
         x.saveSnapshot(1);
         for (int i = 0; i < 30; i++) {
             x.send(0, i);
@@ -217,12 +193,12 @@ public final class UndoTest {
         }
         x.setPolicy(0);
         x.setLimit(99);
-        Check.equal("37 much has altered", false, all(x).equals(before));
+        Check.equal("37 much has altered", false, Check.all(x).equals(before));
         x.restoreSnapshot(1);
-        Check.equal("37 all is as it was", true, all(x).equals(before));
+        Check.equal("37 all is as it was", true, Check.all(x).equals(before));
         x.show(0);
         x.pass(9);
         x.restoreSnapshot(1);
-        Check.equal("37 once more", true, all(x).equals(before));
+        Check.equal("37 once more", true, Check.all(x).equals(before));
     }
 }
