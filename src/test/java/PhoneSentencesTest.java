@@ -363,6 +363,20 @@ public final class PhoneSentencesTest {
             x.show(0);
             Check.equal("habit behind " + (i + 1) + " gaps", habits[i], x.habit(0));
         }
+        // the gaps before a parse are not among the latest ones
+        PhoneMemory y = Check.phone("phone 2000;" + programs(2, "10 0 0 10 50 1 9999"));
+        for (int i = 0; i < 6; i++) {
+            y.show(i % 2);
+            y.pass(100);
+        }
+        Check.parse(y, "phone 2000;" + programs(2, "10 0 0 10 50 1 9999"));
+        y.show(0);
+        for (int i = 1; i <= 4; i++) {
+            y.home();
+            y.pass(7);
+            y.show(0);
+            Check.equal("habit since parse behind " + i, 7, y.habit(0));
+        }
     }
 
     private static void gapsOfTenPrograms() {
@@ -472,22 +486,30 @@ public final class PhoneSentencesTest {
             + "cases in which any program followed that one.");
         for (int all = 0; all <= 7; all++) {
             for (int times = 0; times <= all; times++) {
-                PhoneMemory x = Check.phone("phone 2000;" + programs(3, "10 0 0 10 50 1 9999"));
-                x.show(0);
-                for (int i = 0; i < all; i++) {
-                    x.pass(10);
-                    x.show(i < all - times ? 2 : 1);
-                    x.show(0);
-                }
-                boolean half = times >= 1 && times * 2 >= all;
-                int promise = half ? 0 : times == 0 ? 600 : times == 1 ? 600 : 10;
-                Check.equal(times + " of " + all, promise, x.promise(1));
-                x.home();
-                Check.equal(times + " of " + all + ", a rests", promise, x.promise(1));
-                x.close(0);
-                Check.equal(times + " of " + all + ", a is closed", promise, x.promise(1));
+                followers(all, times, 0, 1, 2);
+                followers(all, times, 2, 0, 1);
+                followers(all, times, 9, 8, 0);
+                followers(all, times, 0, 9, 1);
             }
         }
+    }
+
+    private static void followers(int all, int times, int a, int b, int c) {
+        PhoneMemory x = Check.phone("phone 2000;" + programs(10, "10 0 0 10 50 1 9999"));
+        x.show(a);
+        for (int i = 0; i < all; i++) {
+            x.pass(10);
+            x.show(i < all - times ? c : b);
+            x.show(a);
+        }
+        String when = times + " of " + all + ", " + b + " behind " + a;
+        boolean half = times >= 1 && times * 2 >= all;
+        int promise = half ? 0 : times <= 1 ? 600 : 10;
+        Check.equal(when, promise, x.promise(b));
+        x.home();
+        Check.equal(when + ", it rests", promise, x.promise(b));
+        x.close(a);
+        Check.equal(when + ", it is closed", promise, x.promise(b));
     }
 
     private static void promiseAtLeast0() {
@@ -615,33 +637,42 @@ public final class PhoneSentencesTest {
         step(6, -1);
     }
 
-    /** a rests for the longest time, b uses the most, c promises the most. */
+    /** By promise a comes first, then c and b; by size c, a and b; by recent b, c and a. */
     private static void greatestRank() {
         Check.sentence("the one comes first that has the greatest rank: by the policy promise its promise, by size what it uses, by "
             + "recent the minutes since it was shown last;");
-        int[] first = {2, 1, 0};
+        int[][] orders = {{0, 2, 1}, {2, 0, 1}, {1, 2, 0}};
         for (int policy = 0; policy <= 2; policy++) {
-            PhoneMemory x = Check.phone("phone 2000;program a 30 5 0 30 50 5 9999;program b 50 5 0 50 50 9 9999;"
-                + "program c 40 5 0 40 50 7 9999;");
-            for (int p = 0; p < 3; p++) {
-                x.show(p);
-                x.pass(1);
-            }
-            x.home();
-            x.setPolicy(policy);
-            int[] kinds = {1, 3, 2, 4, 5};
-            for (int kind : kinds) {
-                Check.equal("policy " + policy + ", kind " + kind, first[policy], x.victim(kind));
+            PhoneMemory x = threeRest(policy);
+            for (int kind : new int[] {1, 3, 2, 4, 5}) {
                 for (int i = 0; i < 3; i++) {
-                    x.trim(kind);
+                    Check.equal("policy " + policy + ", victim of " + kind + ", " + i, orders[policy][i], x.victim(kind));
+                    Check.equal("policy " + policy + ", step " + kind + ", " + i, orders[policy][i], x.trim(kind));
                 }
                 Check.equal("no one is left, kind " + kind, -1, x.victim(kind));
             }
-            int[][] orders = {{2, 1, 0}, {1, 2, 0}, {0, 1, 2}};
-            for (int k = 0; k < 15; k++) {
-                Check.equal("policy " + policy + ", entry " + k, orders[policy][2 - k % 3], x.log(k, 1));
-            }
+            // the same at once: the caches, each one frozen and zipped, all saved and one closed
+            PhoneMemory y = threeRest(policy);
+            y.setLimit(61);
+            y.show(3);
+            int[] order = orders[policy];
+            int[] kinds = {1, 1, 1, 3, 2, 3, 2, 3, 2, 4, 4, 4, 5, 7};
+            int[] programs = {order[0], order[1], order[2], order[0], order[0], order[1], order[1], order[2], order[2],
+                order[0], order[1], order[2], order[0], 3};
+            entries("by policy " + policy, y, kinds, programs);
         }
+    }
+
+    private static PhoneMemory threeRest(int policy) {
+        PhoneMemory x = Check.phone("phone 2000;program a 40 5 0 40 50 7 9999;program b 30 5 0 30 50 5 9999;"
+            + "program c 50 5 0 50 50 9 9999;program d 45 0 0 45 50 1 9999;");
+        for (int p : new int[] {1, 2, 0}) {
+            x.show(p);
+            x.pass(1);
+        }
+        x.home();
+        x.setPolicy(policy);
+        return x;
     }
 
     private static void smallestNumber() {
@@ -680,6 +711,13 @@ public final class PhoneSentencesTest {
         x.trim(4);
         x.trim(4);
         Check.equal("saved, 2 and 1", 0, x.victim(5));
+        // what was used before the steps does not count any more: without its cache b comes behind a
+        PhoneMemory y = Check.phone("phone 2000;program a 60 0 0 60 10 2 9999;program b 40 21 0 40 100 1 9999;policy size;");
+        y.show(0);
+        y.show(1);
+        y.home();
+        Check.equal("cache, freeze and zip", 3, y.setLimit(99));
+        states("by size then", y, ZIPPED, RESTING);
     }
 
     /** a is greater and precious, b is not; c is precious, too, and the greatest of all. */
@@ -1010,6 +1048,8 @@ public final class PhoneSentencesTest {
         Check.equal("a wait of 0 with patience 9999", 1, y.program(1, 4));
         y.show(2);
         Check.equal("a wait of 0 with patience 0", 1, y.program(2, 4));
+        y.show(0);
+        Check.equal("complaints about all", 2, y.size(7));
     }
 
     // ---- A MINUTE

@@ -381,8 +381,11 @@ public final class TextSentencesTest {
         for (int p = 0; p < 10; p++) {
             fails(text + "work " + (char) ('a' + p) + " 1;", 2, text.length() + 5);
         }
-        parses("phone 50;");
-        parses("phone 50;costs 1 2 3 4;" + A + "policy size;");
+        // once in each text, so again in the next one
+        PhoneMemory x = new PhoneMemory();
+        for (int i = 0; i < 3; i++) {
+            Check.equal("text " + i, 0, Check.parse(x, "phone 50;costs 1 2 3 4;" + A + "policy size;work a 1;"));
+        }
     }
 
     private static void policyIfNotTold() {
@@ -390,8 +393,10 @@ public final class TextSentencesTest {
         Check.equal("policy of an empty phone", 0, Check.phone("phone 50;").size(6));
         PhoneMemory x = Check.phone("phone 50;policy recent;");
         Check.equal("recent is told", 2, x.size(6));
-        Check.parse(x, "phone 50;" + A);
-        Check.equal("nothing is told behind recent", 0, x.size(6));
+        for (int i = 0; i < 2; i++) {
+            Check.parse(x, "phone 50;" + A);
+            Check.equal("nothing is told behind recent, " + i, 0, x.size(6));
+        }
         Check.parse(x, "phone 50;policy size;");
         Check.equal("size is told", 1, x.size(6));
         Check.parse(x, "phone 50;policy promise;");

@@ -340,9 +340,9 @@ public final class TrimsTest {
         PhoneMemory x = resting(text);
         Check.equal("21 full", 130, x.size(2));
         // promise: c 600, b 599, a 598: c to 10, b to 40; then b (1 + 160), then a 1 or zipped
-        check21(x, 0);
-        check21(x, 1);
-        check21(x, 2);
+        check21(text, 0);
+        check21(text, 1);
+        check21(text, 2);
         Check.equal("21 policy stays", 0, x.size(6));
         // by recent: freezing and zipping a (15), b (40): 15 + 40 + 20 + 40; a is zipped, b is zipped, c rests
         Check.equal("21 recent", 400 + (1 + 60) + 1, x.waitsFor(2, 3, 0, 2));
@@ -353,10 +353,10 @@ public final class TrimsTest {
     }
 
     /** The sum must be what showing one after the other takes. */
-    private static void check21(PhoneMemory x, int policy) {
-        int count = x.size(0);
-        x.saveSnapshot(0);
+    private static void check21(String text, int policy) {
+        int count = 4;
         for (int i = 0; i < count * count * count; i++) {
+            PhoneMemory x = resting(text);
             int[] programs = {i % count, i / count % count, i / count / count};
             int sum = x.waitsFor(policy, programs[0], programs[1], programs[2]);
             x.setPolicy(policy);
@@ -364,7 +364,6 @@ public final class TrimsTest {
                 sum -= x.whyNotShow(program) == 0 ? x.show(program) : 0;
             }
             Check.equal("21 waits by policy " + policy + ", showings " + i, 0, sum);
-            x.restoreSnapshot(0);
         }
     }
 
@@ -407,17 +406,19 @@ public final class TrimsTest {
     }
 
     private static void keepsTwentyFour() {
-        PhoneMemory x = Check.phone("phone 90;program a 10 0 0 10 50 1 9999;program b 10 0 0 10 50 1 9999;");
-        for (int i = 0; i < 30; i++) {
-            x.show(i % 2);
-            for (int k = 0; k < 26; k++) {
-                boolean kept = k <= i && k < 24;
-                Check.equal("22 program " + k + " of " + i, kept ? (i - k) % 2 : -1, x.log(k, 1));
-                Check.equal("22 minute " + k + " of " + i, kept ? i - k : -1, x.log(k, 2));
+        for (int last = 0; last < 30; last++) {
+            PhoneMemory x = Check.phone("phone 90;program a 10 0 0 10 50 1 9999;program b 10 0 0 10 50 1 9999;");
+            for (int i = 0; i <= last; i++) {
+                x.show(i % 2);
+                x.pass(1);
             }
-            x.pass(1);
+            for (int k = 0; k < 26; k++) {
+                boolean kept = k <= last && k < 24;
+                Check.equal("22 program " + k + " of " + last, kept ? (last - k) % 2 : -1, x.log(k, 1));
+                Check.equal("22 minute " + k + " of " + last, kept ? last - k : -1, x.log(k, 2));
+            }
+            Check.equal("23 all are counted", last + 1, x.account(7));
         }
-        Check.equal("23 all are counted", 30, x.account(7));
     }
 
     private static void accounts(String when, PhoneMemory x, int... want) {

@@ -51,42 +51,32 @@ public final class UndoTest {
         return x;
     }
 
-    private static void undoes(String change, Check.Call call, PhoneMemory x) {
-        String before = Check.all(x);
-        int changes = x.size(8);
-        call.answer();
-        Check.equal("35 " + change + " is a change", Math.min(10, changes + 1), x.size(8));
-        Check.equal("35 undo of " + change, Math.min(10, changes + 1) - 1, x.undo());
-        Check.equal("35 all is as before " + change, true, Check.all(x).equals(before));
-        call.answer();
+    private interface Change {
+        long on(PhoneMemory x);
     }
 
+    private static void undoes(int step, Change change, PhoneMemory x) {
+        String before = Check.all(x);
+        int changes = x.size(8);
+        change.on(x);
+        Check.equal("35 step " + step + " is a change", Math.min(10, changes + 1), x.size(8));
+        Check.equal("35 undo of step " + step, Math.min(10, changes + 1) - 1, x.undo());
+        Check.equal("35 all is as before step " + step, true, Check.all(x).equals(before));
+    }
+
+    /** Each change is undone on a phone of its own, on which the changes before it have been made. */
     private static void promise35EachChange() {
-        PhoneMemory x = busy();
-        undoes("send", () -> x.send(0, 5), x);
-        undoes("send to the shown one", () -> x.send(1, 5), x);
-        undoes("send to a closed one", () -> x.send(2, 5), x);
-        undoes("show", () -> x.show(0), x);
-        undoes("show again", () -> x.show(0), x);
-        undoes("touch", () -> x.touch(6), x);
-        undoes("read", () -> x.read(), x);
-        undoes("pass", () -> x.pass(100), x);
-        undoes("show of another one", () -> x.show(1), x);
-        undoes("home", () -> x.home(), x);
-        undoes("home again", () -> x.home(), x);
-        undoes("pass at home", () -> x.pass(9), x);
-        undoes("setLimit", () -> x.setLimit(200), x);
-        undoes("setLimit again", () -> x.setLimit(50), x);
-        undoes("setPolicy", () -> x.setPolicy(2), x);
-        undoes("setPolicy again", () -> x.setPolicy(2), x);
-        undoes("pin", () -> x.pin(0, true) ? 1 : 0, x);
-        undoes("pin again", () -> x.pin(0, true) ? 1 : 0, x);
-        undoes("setLimit once more", () -> x.setLimit(2000), x);
-        undoes("pin off", () -> x.pin(0, false) ? 1 : 0, x);
-        undoes("close", () -> x.close(1), x);
-        undoes("show with a limit of 2000", () -> x.show(1), x);
-        undoes("trim", () -> x.trim(6), x);
-        undoes("close of the shown one", () -> x.close(1), x);
+        Change[] changes = {x -> x.send(0, 5), x -> x.send(1, 5), x -> x.send(2, 5), x -> x.show(0), x -> x.show(0), x -> x.touch(6),
+            x -> x.read(), x -> x.pass(100), x -> x.show(1), x -> x.home(), x -> x.home(), x -> x.pass(9), x -> x.setLimit(200),
+            x -> x.setLimit(50), x -> x.setPolicy(2), x -> x.setPolicy(2), x -> x.pin(0, true) ? 1 : 0, x -> x.pin(0, true) ? 1 : 0,
+            x -> x.setLimit(2000), x -> x.pin(0, false) ? 1 : 0, x -> x.close(1), x -> x.show(1), x -> x.trim(6), x -> x.close(1)};
+        for (int step = 0; step < changes.length; step++) {
+            PhoneMemory x = busy();
+            for (int before = 0; before < step; before++) {
+                changes[before].on(x);
+            }
+            undoes(step, changes[step], x);
+        }
     }
 
     private static void promise35WhatIsNoChange() {
@@ -175,11 +165,15 @@ public final class UndoTest {
         Check.equal("37 its own phone", 1, x.program(1, 0));
     }
 
-    private static void promise37HoldsAll() {
+    private static PhoneMemory busyWithLimit() {
         PhoneMemory x = busy();
         x.setPolicy(2);
         x.setLimit(150);
-        String before = Check.all(x);
+        return x;
+    }
+
+    private static PhoneMemory alteredBehindSnapshot() {
+        PhoneMemory x = busyWithLimit();
         x.saveSnapshot(1);
         for (int i = 0; i < 30; i++) {
             x.send(0, i);
@@ -193,12 +187,20 @@ public final class UndoTest {
         }
         x.setPolicy(0);
         x.setLimit(99);
-        Check.equal("37 much has altered", false, Check.all(x).equals(before));
+        return x;
+    }
+
+    private static void promise37HoldsAll() {
+        String saved = Check.all(busyWithLimit());
+        Check.equal("37 much has altered", false, saved.equals(Check.all(alteredBehindSnapshot())));
+        PhoneMemory x = alteredBehindSnapshot();
         x.restoreSnapshot(1);
-        Check.equal("37 all is as it was", true, Check.all(x).equals(before));
-        x.show(0);
-        x.pass(9);
-        x.restoreSnapshot(1);
-        Check.equal("37 once more", true, Check.all(x).equals(before));
+        Check.equal("37 all is as it was", true, saved.equals(Check.all(x)));
+        PhoneMemory y = alteredBehindSnapshot();
+        y.restoreSnapshot(1);
+        y.show(0);
+        y.pass(9);
+        y.restoreSnapshot(1);
+        Check.equal("37 once more", true, saved.equals(Check.all(y)));
     }
 }
