@@ -14,6 +14,8 @@ public final class PhoneSentencesTest {
     private static final int SAVED = 5;
 
     public static void main(String[] args) {
+        divisionsTruncate();
+        call512();
         atMostOneIsShown();
         allAreClosedAtFirst();
         usesByState();
@@ -101,6 +103,46 @@ public final class PhoneSentencesTest {
             text.append("program ").append((char) ('a' + p)).append(' ').append(numbers).append(';');
         }
         return text.toString();
+    }
+
+    private static void divisionsTruncate() {
+        Check.sentence("All numbers are integers; all divisions truncate.");
+        int[][] rows = {{5, 8, 6}, {0, 1, 0}, {1, 2, 1}, {239, 240, 239}};
+        for (int[] row : rows) {
+            PhoneMemory x = Check.phone("phone 2000;program a 13 0 0 13 31 1 9999;");
+            x.show(0);
+            for (int i = 0; i < 2; i++) {
+                x.home();
+                if (row[i] > 0) {
+                    x.pass(row[i]);
+                }
+                x.show(0);
+            }
+            Check.equal("gaps of " + row[0] + " and " + row[1], row[2], x.habit(0));
+        }
+        PhoneMemory y = Check.phone("phone 2000;program a 13 0 0 13 31 1 9999;");
+        bring(y, 0, ZIPPED);
+        // 4.03 pages and 99 hundredths
+        Check.equal("13 pages by ratio 31", 5, y.program(0, 3));
+    }
+
+    /** Each text takes two calls of append and one of parse. */
+    private static void call512() {
+        Check.sentence("An object is used for at most 512 calls after it has been made;");
+        PhoneMemory x = Check.phone("phone 50;program a 1 0 0 1 10 1 9;");
+        x.show(0);
+        x.home();
+        for (int call = 6; call <= 510; call++) {
+            x.pass(240);
+        }
+        x.show(0);
+        Check.equal("the 512th call, a gap of 505 * 240 minutes", 121200, x.habit(0));
+        PhoneMemory y = Check.phone("phone 50;program a 50 0 1 60 50 1 0;");
+        y.show(0);
+        for (int call = 5; call <= 511; call++) {
+            y.pass(240);
+        }
+        Check.equal("the 512th call, 507 * 240 refused pages", 121680, y.account(9));
     }
 
     // ---- PROGRAMS

@@ -723,7 +723,8 @@ public final class TextSentencesTest {
     }
 
     private static void positionOfLastParse() {
-        Check.sentence("Returns the position; NONE if that call succeeded or there was none.");
+        Check.sentence("Returns the position of the parse error of the last call of parse that did not throw an exception. Returns the "
+            + "position; NONE if that call succeeded or there was none.");
         PhoneMemory x = new PhoneMemory();
         Check.equal("there was none", -1, x.errorPosition());
         Check.noArgument("an exception", () -> x.parse(-1));
